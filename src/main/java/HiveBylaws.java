@@ -343,11 +343,11 @@ public final class HiveBylaws {
             case 6:
                 return state.petitions.size;
             case 7:
-                return state.swarm.total(state.swarm.made);
+                return sum(state.swarm.made);
             case 8:
-                return state.swarm.total(state.swarm.passed);
+                return sum(state.swarm.passed);
             case 9:
-                return state.swarm.total(state.swarm.refused);
+                return sum(state.swarm.refused);
             case 10:
                 return state.repeals;
             case 11:
@@ -377,6 +377,14 @@ public final class HiveBylaws {
 
     private static boolean isDoing(int doing) {
         return doing >= 0 && doing < DOINGS;
+    }
+
+    private static int sum(int[] amounts) {
+        int sum = 0;
+        for (int amount : amounts) {
+            sum += amount;
+        }
+        return sum;
     }
 
     /** Every act answers 0 or more where it changed something, and less where it did not. */
@@ -472,10 +480,8 @@ public final class HiveBylaws {
             if (isElsewhere || petitions.madeBy(drone) != NONE || petitions.size >= MOST_PETITIONS) {
                 return NOT_POSSIBLE;
             }
-            int petition = petitions.add(drone, place, doing, kind);
-            petitions.support[petition] = swarm.weight[drone];
             swarm.made[drone]++;
-            return petition;
+            return petitions.add(drone, place, doing, kind, swarm.weight[drone]);
         }
 
         int addSeconder(int drone, int petition) {
@@ -649,14 +655,6 @@ public final class HiveBylaws {
             }
             return sum;
         }
-
-        int total(int[] amounts) {
-            int sum = 0;
-            for (int amount : amounts) {
-                sum += amount;
-            }
-            return sum;
-        }
     }
 
     /** The bylaws: a spot for each place (a comb, or the hive) and doing, in the order in which they are told. */
@@ -800,13 +798,13 @@ public final class HiveBylaws {
             return petition >= 0 && petition < size;
         }
 
-        /** Adds a petition, still without support, where there is room for it. */
-        int add(int maker, int about, int what, int wish) {
+        /** Adds a petition where there is room for it. */
+        int add(int maker, int about, int what, int wish, int weightOfMaker) {
             drone[size] = maker;
             place[size] = about;
             doing[size] = what;
             kind[size] = wish;
-            support[size] = 0;
+            support[size] = weightOfMaker;
             seconders[size] = 0;
             size++;
             return size - 1;

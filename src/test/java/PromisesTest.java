@@ -23,15 +23,19 @@ public final class PromisesTest {
         promise6Days();
         promise6Hearing();
         promise6Refusals();
+        promise6TwelveRefusals();
         promise7();
         promise8and9();
         promise10Faults();
         promise10Acts();
         promise11();
         promise12();
+        promise12Whole();
         promise13and14();
         promise15();
         promise16();
+        promise16Least();
+        promise16Twelve();
         promise17();
         promise18();
         promise19();
@@ -326,6 +330,32 @@ public final class PromisesTest {
         due("6 forgotten for others", season(x, 0, 0, 2, FORBID), 1);
     }
 
+    /** The queen keeps in mind all that twelve drones asked for; she forgets it after one season. */
+    private static void promise6TwelveRefusals() {
+        HiveBylaws x = hive(60, 1);
+        for (int i = 0; i < 12; i++) {
+            x.come(i % 6, 3);
+        }
+        for (int i = 0; i < 12; i++) {
+            due("6 twelve petitions", x.petition(i, HIVE, i, FORBID), i);
+        }
+        due("6 none passes", x.pass(1), 0);
+        due("6 twelve are refused", x.count(9), 12);
+        x.set(0, 0);
+        for (int i = 0; i < 12; i++) {
+            x.petition(i, HIVE, 11 - i, FORBID);
+            due("6 refused ahead", x.reason(i), 2);
+        }
+        x.second(0, 11);
+        due("6 but one with more", x.wouldPass(), 1 << 11);
+        due("6 one passes", x.pass(1), 1);
+        x.pass(1);
+        for (int i = 0; i < 12; i++) {
+            x.petition(i, HIVE, i, FORBID);
+        }
+        due("6 all but the one that is there pass", x.pass(1), 11);
+    }
+
     private static void promise7() {
         HiveBylaws x = new HiveBylaws();
         due("7 which 2", x.set(2, 5), UNKNOWN);
@@ -439,6 +469,14 @@ public final class PromisesTest {
         fault(".-1", 1);
         fault("P0:0.0+", 0);
         fault("p0:0.5+;y0:0;.100", 16);
+        // What was written before the text was emptied is no part of it; nor is there anything behind 60 characters.
+        HiveBylaws x = hive(0, 10, 0, 1);
+        due("10 a whole text", performed(x, "p0:0.5+"), 1);
+        due("10 the beginning of it", performed(x, "p0:0.5"), -106);
+        due("10 less of it", performed(x, "p0"), -102);
+        fault(".1;.1;.1;.1;.1;.1;.1;.1;.1;.1;.1;.1;.1;.1;.1;.1;.1;.1;p0:0.5", 60);
+        fault(".11;.1;.1;.1;.1;.1;.1;.1;.1;.1;.1;.1;.1;.1;.1;.1;.1;.1;.1;y1", 60);
+        fault(".1;.1;.1;.1;.1;.1;.1;.1;.1;.1;.1;.1;.1;.1;.1;.1;.1;.1;.1;.1.", 59);
         // Twenty things, each with a ";", fill the text, and one is missing.
         fault(".1;.1;.1;.1;.1;.1;.1;.1;.1;.1;.1;.1;.1;.1;.1;.1;.1;.1;.1;.1;", 60);
     }
@@ -463,6 +501,11 @@ public final class PromisesTest {
         due("10 NONE does not stop", performed(y, "p0:0.19-;y1:0;y1:0;.99"), 4);
         due("10 largest doing", y.bylaw(0, 1), 19);
         due("10 most days", y.count(0), 99);
+        due("10 a petition behind days", performed(y, ".1;.2"), 2);
+        due("10 another kind of thing at that place", performed(y, "p0:0.1-;y1:0"), 2);
+        due("10 made and seconded", y.petitionOf(0, 4), 10);
+        y.undo();
+        y.undo();
         y.petition(0, 0, 0, FORBID);
         y.second(1, 0);
         int states = y.count(14);
@@ -475,6 +518,15 @@ public final class PromisesTest {
         due("10 no day", y.count(0), 99);
         due("10 nothing recorded", y.count(14), 3);
         due("10 the petition is still there", y.count(6), 1);
+        HiveBylaws v = hive(0, 60);
+        for (int i = 0; i < 12; i++) {
+            v.come(0, 1);
+        }
+        for (int i = 0; i < 12; i++) {
+            v.petition(i, 0, i, FORBID);
+        }
+        due("10 the last petition", performed(v, "y0:11;y11:10"), 2);
+        due("10 is seconded", v.petitionOf(11, 5), 1);
         HiveBylaws z = hive(0, 60);
         for (int i = 0; i < 12; i++) {
             z.come(0, 1);
@@ -558,6 +610,62 @@ public final class PromisesTest {
         due("12 not refused yet", y.drone(1, 6), 0);
         due("12 the petition is back", y.petitionOf(0, 3), ALLOW);
         due("12 the season is back", y.count(1), 1);
+    }
+
+    /** Acts of every kind are undone, and everything that is told of is as it was before them. */
+    private static void promise12Whole() {
+        HiveBylaws x = hive(0, 3, 0, 5, 0, 4, 1, 9, 1, 1);
+        x.petition(0, 0, 0, FORBID);
+        x.petition(3, 1, 0, ALLOW);
+        x.pass(3);
+        x.petition(0, 0, 0, FORBID);
+        x.petition(2, HIVE, 4, FORBID);
+        x.pass(3);
+        x.petition(3, 1, 7, ALLOW);
+        x.petition(1, 0, 8, REPEAL);
+        x.second(2, 0);
+        x.pass(1);
+        long then = fingerprint(x);
+        x.pass(2);
+        x.come(4, 4);
+        x.petition(2, HIVE, 9, ALLOW);
+        x.second(0, 0);
+        for (int i = 0; i < 4; i++) {
+            x.undo();
+        }
+        due("12 all is as it was", fingerprint(x), then);
+        x.keep();
+        x.undo();
+        x.petition(1, HIVE, 4, REPEAL);
+        x.petition(2, HIVE, 5, ALLOW);
+        x.petition(0, 0, 0, ALLOW);
+        x.second(3, 2);
+        x.pass(99);
+        x.set(0, 9);
+        x.set(1, 7);
+        x.move(0, 5);
+        x.restore();
+        due("14 all is as it was", fingerprint(x), then);
+        x.undo();
+        Check.holds("12 the restoring is undone", fingerprint(x) != then);
+    }
+
+    /** All answers about the state in one number. */
+    private static long fingerprint(HiveBylaws x) {
+        long sum = 17 * (x.wouldPass() + 1) + x.free();
+        for (int i = 0; i <= 13; i++) {
+            sum = sum * 31 + x.count(i);
+            for (int what = 0; what <= 6; what++) {
+                sum = sum * 31 + x.drone(i, what);
+                sum = sum * 31 + x.petitionOf(i, what);
+                sum = sum * 31 + x.bylaw(i, what);
+            }
+            sum = sum * 31 + x.heard(i);
+            sum = sum * 31 + x.reason(i);
+            sum = sum * 31 + x.lacks(i);
+            sum = sum * 31 + x.oldest(i, 0);
+        }
+        return sum;
     }
 
     private static void promise13and14() {
@@ -656,6 +764,50 @@ public final class PromisesTest {
         x.move(0, 0);
         due("16 nobody", x.bylaw(2, 5), 0);
         due("16 all", x.bylaw(3, 5), 17);
+    }
+
+    /** All twelve drones are weighed. */
+    private static void promise16Twelve() {
+        HiveBylaws x = hive(0, 1);
+        for (int i = 0; i < 12; i++) {
+            x.come(i < 9 ? 5 : 4, i == 11 ? 2 : 9);
+        }
+        x.petition(0, 5, 0, FORBID);
+        x.petition(11, HIVE, 0, FORBID);
+        x.pass(1);
+        due("16 the weight of nine", x.bylaw(0, 5), 81);
+        due("16 the weight of twelve", x.bylaw(1, 5), 101);
+        x.petition(11, HIVE, 0, REPEAL);
+        for (int i = 0; i < 5; i++) {
+            x.second(i, 0);
+        }
+        due("16 47 of 101", x.reason(0), 5);
+        due("16 lacks 4", x.lacks(0), 4);
+        x.second(10, 0);
+        due("16 56 of 101", x.reason(0), 0);
+    }
+
+    /** The weakest bylaw is one, and so is the one on the first spot. */
+    private static void promise16Least() {
+        HiveBylaws x = hive(0, 1, 0, 1);
+        season(x, 0, 0, 0, FORBID);
+        due("16 one bylaw", x.count(4), 1);
+        due("16 of the first comb", x.bylaw(0, 0), 0);
+        due("16 of strength 1", x.bylaw(0, 3), 1);
+        due("16 it forbids", x.count(5), 1);
+        due("16 at one comb", x.count(11), 1);
+        due("16 it rules", x.rule(0, 0, 0), 0);
+        due("16 its comb rules", x.rule(0, 0, 1), 0);
+        due("16 its strength rules", x.rule(0, 0, 2), 1);
+        due("16 it binds", x.oldest(0, 0), 0);
+        due("16 from the first season", x.oldest(0, 1), 0);
+        season(x, 0, HIVE, 19, FORBID);
+        due("16 the last spot", x.bylaw(1, 0), 6);
+        due("16 the last doing", x.bylaw(1, 1), 19);
+        due("16 at all combs", x.count(11), 7);
+        due("16 repealed", season(x, 0, 0, 0, REPEAL), 1);
+        due("16 the last spot is the first", x.bylaw(0, 1), 19);
+        due("16 the last spot binds", x.oldest(0, 0), 0);
     }
 
     private static void promise17() {
