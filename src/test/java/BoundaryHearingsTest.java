@@ -11,6 +11,7 @@ public final class BoundaryHearingsTest extends Boundary {
         reason2ForTheSameCombAboutTheSameDoingOfTheSameKind();
         reason2AtTheHearingThatEndedTheSeasonAhead();
         reason2OfSeveralTheGreatest();
+        reason2ARefusalOfEveryDroneIsKnown();
         reason3ABylawOfTheHiveSaysOtherwise();
         reason4ABylawThereSaysSoAlready();
         reason4ThereIsNoBylawToRepeal();
@@ -232,6 +233,20 @@ public final class BoundaryHearingsTest extends Boundary {
     /** The hive says this of doing 7, with the strength 5; drone 0 of weight 4 and drone 2 live at comb 2. */
     private static Run hiveSays(int stance) {
         return then(hive(0, 1, 2, 4, 3, 5, 2, 1), petitions(1, HIVE, 7, stance), days(1));
+    }
+
+    private static void reason2ARefusalOfEveryDroneIsKnown() {
+        sentence("2 she refused a petition for the same comb, about the same doing, of the same kind");
+        Run refused = then(swarm(60, 1, 12, 2, 3), petitionsOfAll(12), days(1), x -> x.set(0, 0));
+        for (int doing = 0; doing <= 13; doing++) {
+            int what = doing;
+            // Twelve were refused, about the doings 0 to 11.
+            inside("doing " + doing, then(refused, x -> x.petition(0, 2, what, FORBID)), x -> x.reason(0), doing <= 11 ? 2 : 0);
+        }
+        Run all = then(refused, petitionsOfAll(12));
+        inside("none of the twelve passes", all, HiveBylaws::wouldPass, 0);
+        inside("twelve refused, and twelve again", then(all, days(1), petitionsOfAll(12)), HiveBylaws::wouldPass, 0);
+        inside("all of them are forgotten a season later", then(refused, days(1), petitionsOfAll(12)), HiveBylaws::wouldPass, 4095);
     }
 
     private static void reason3ABylawOfTheHiveSaysOtherwise() {

@@ -612,6 +612,8 @@ public final class BoundaryPromisesTest extends Boundary {
         sentence("Returns the least number, 0 to 120, by which its support would have to be greater; UNKNOWN");
         Run alone = then(hive(5, 10, 2, 5, 2, 4, 2, 1), petitions(0, 2, 7, FORBID, 1, 2, 7, FORBID));
         inside("5 of 5", alone, x -> x.lacks(0), 0);
+        inside("5 of 4 is no less than 0", then(alone, x -> x.set(0, 4)), x -> x.lacks(0), 0);
+        inside("5 of 0", then(alone, x -> x.set(0, 0)), x -> x.lacks(0), 0);
         inside("4 of 5", alone, x -> x.lacks(1), 1);
         inside("if it was the only one that is heard", then(alone, x -> x.set(0, 4)), x -> x.lacks(1), 0);
         inside("though it would be refused", then(alone, x -> x.set(0, 4)), x -> x.reason(1), 4);
@@ -684,6 +686,10 @@ public final class BoundaryPromisesTest extends Boundary {
             outside("drone " + far, ruled, x -> x.oldest(far, 0), UNKNOWN);
             outside("what " + far, ruled, x -> x.oldest(0, far), BAD_VALUE);
         }
+        Run first = then(hive(0, 1, 0, 5), petitions(0, 0, 0, FORBID), days(1));
+        inside("of the first comb and doing", first, x -> x.oldest(0, 0), 0);
+        Run last = then(hive(0, 1, 0, 5), petitions(0, HIVE, 19, FORBID), days(1));
+        inside("of the hive and the last doing", last, x -> x.oldest(0, 0), 0);
         // A comb's bylaw that the hive's overrules binds nobody.
         for (int ofHive = 4; ofHive <= 6; ofHive++) {
             Run both = then(hive(0, 1, 2, 5, 3, ofHive), petitions(0, 2, 7, FORBID), days(1), petitions(1, HIVE, 7, ALLOW), days(1));

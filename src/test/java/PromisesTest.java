@@ -612,8 +612,8 @@ public final class PromisesTest {
         due("12 the season is back", y.count(1), 1);
     }
 
-    /** Acts of every kind are undone, and everything that is told of is as it was before them. */
-    private static void promise12Whole() {
+    /** A hive with bylaws, refusals and petitions, on the second day of a season. */
+    private static HiveBylaws busy() {
         HiveBylaws x = hive(0, 3, 0, 5, 0, 4, 1, 9, 1, 1);
         x.petition(0, 0, 0, FORBID);
         x.petition(3, 1, 0, ALLOW);
@@ -625,7 +625,16 @@ public final class PromisesTest {
         x.petition(1, 0, 8, REPEAL);
         x.second(2, 0);
         x.pass(1);
-        long then = fingerprint(x);
+        return x;
+    }
+
+    /**
+     * Acts of every kind are undone, and everything that is told of is as it was before them. Each
+     * object is looked at once, because it is used for 512 calls at most.
+     */
+    private static void promise12Whole() {
+        long then = fingerprint(busy());
+        HiveBylaws x = busy();
         x.pass(2);
         x.come(4, 4);
         x.petition(2, HIVE, 9, ALLOW);
@@ -634,6 +643,15 @@ public final class PromisesTest {
             x.undo();
         }
         due("12 all is as it was", fingerprint(x), then);
+        due("14 all is as it was", fingerprint(restored()), then);
+        HiveBylaws y = restored();
+        y.undo();
+        Check.holds("12 the restoring is undone", fingerprint(y) != then);
+    }
+
+    /** The busy hive, much changed, and restored. */
+    private static HiveBylaws restored() {
+        HiveBylaws x = busy();
         x.keep();
         x.undo();
         x.petition(1, HIVE, 4, REPEAL);
@@ -645,9 +663,7 @@ public final class PromisesTest {
         x.set(1, 7);
         x.move(0, 5);
         x.restore();
-        due("14 all is as it was", fingerprint(x), then);
-        x.undo();
-        Check.holds("12 the restoring is undone", fingerprint(x) != then);
+        return x;
     }
 
     /** All answers about the state in one number. */
